@@ -22,7 +22,7 @@ public final class RaceTuning {
     private static final int FAILED = 2000000;
     private static final int UNTOLD = -1;
     private static final int NONE = -1;
-    private static final int HOW_MANY = -1;
+    private static final int ALL_TOGETHER = -1;
 
     private static final int MOST_LEVEL = 1000;
     private static final int MOST_BUDGET = 1000;
@@ -112,7 +112,7 @@ public final class RaceTuning {
         if (current == null) {
             return NO_SUCH;
         }
-        return k == HOW_MANY ? current.remaining : current.remainingAt(k);
+        return k == ALL_TOGETHER ? current.remaining : current.remainingAt(k);
     }
 
     public int raceOf(int what) {
@@ -167,11 +167,11 @@ public final class RaceTuning {
         if (k > table.countWhole()) {
             return NOT_SO;
         }
-        if (i != HOW_MANY && !isWithin(i, 0, k - 1)) {
+        if (i != ALL_TOGETHER && !isWithin(i, 0, k - 1)) {
             return NO_SUCH;
         }
         few.find(table, k);
-        return i == HOW_MANY ? few.leastSum : few.memberAt(i);
+        return i == ALL_TOGETHER ? few.leastSum : few.memberAt(i);
     }
 
     public int pick(int instance) {

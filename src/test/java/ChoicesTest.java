@@ -15,7 +15,9 @@ public final class ChoicesTest {
         stumpOfLikeOnes();
         stumpAtTheEdges();
         stumpRefusals();
+        stumpOfTwelve();
         heldOutSums();
+        heldOutAfterAChange();
         heldOutRefusals();
         heldOutWithoutLearning();
         greatestSums();
@@ -155,6 +157,12 @@ public final class ChoicesTest {
         Check.due("of like near ones the least number, of like costs the least setting", y.pick(0), 1);
         Check.due("its own cost does not matter", y.pick(2), 1);
         Check.due("from 1 the nearest is 2", y.pick(1), 0);
+        RaceTuning z = told(new int[][] {{90, 10}, {20, 80}, {95, 30}, {60, 60}}, new boolean[4],
+                new int[][] {{0, 9, 9, 9}, {9, 0, 9, 9}, {9, 9, 0, 9}, {9, 9, 9, 0}});
+        Check.due("0 has 140, 25, 80", z.pick(0), 2);
+        Check.due("1 has 140, 125, 60", z.pick(1), 3);
+        Check.due("2 has 25, 125, 65", z.pick(2), 0);
+        Check.due("3 has 80, 60, 65", z.pick(3), 1);
     }
 
     private static void pickRefusals() {
@@ -209,6 +217,20 @@ public final class ChoicesTest {
         dueStump(w, 0, 11, 0, 1, 2);
     }
 
+    private static void stumpOfTwelve() {
+        int[][] costs = new int[12][24];
+        int[][] features = new int[24][2];
+        for (int i = 0; i < 24; i++) {
+            features[i][0] = i % 2 * 100;
+            features[i][1] = 4 * i;
+            for (int s = 0; s < 12; s++) {
+                costs[s][i] = i < 10 ? 12 - s : s == 10 ? 1 : 50;
+            }
+        }
+        RaceTuning x = told(features, new boolean[24], costs);
+        dueStump(x, 1, 37, 11, 10, 24);
+    }
+
     private static void stumpRefusals() {
         RaceTuning x = new RaceTuning();
         int[] outside = {-1, 5, Integer.MIN_VALUE, Integer.MAX_VALUE};
@@ -235,13 +257,27 @@ public final class ChoicesTest {
             {5, 1, 5, 5, 6, 700000, 3},
         };
         RaceTuning x = told(features, held, costs);
-        dueStump(x, 0, 11, 0, 1, 5);
-        duePortfolio(x, 13, 1);
         dueHeldOut(x, 100 + 4000 + 3, 20 + 4000 + 50000, 6 + 7 + 3, 20 + 4000 + 50000);
         RaceTuning y = told(new int[][] {{10, 0}, {90, 0}, {10, 0}, {11, 0}}, new boolean[] {false, false, true, true},
                 new int[][] {{1, 9, 5, 70}, {9, 1, 600, 8000}});
-        dueStump(y, 0, 11, 0, 1, 2);
         dueHeldOut(y, 75, 75, 75, 5 + 8000);
+        dueStump(y, 0, 11, 0, 1, 2);
+        dueStump(x, 0, 11, 0, 1, 5);
+        duePortfolio(x, 13, 1);
+    }
+
+    /** What was found before must not stay when costs or instances come. */
+    private static void heldOutAfterAChange() {
+        RaceTuning x = told(new int[][] {{10, 0}, {90, 0}, {50, 0}}, new boolean[] {false, false, true},
+                new int[][] {{4, 4, 100}, {5, 5, 20}});
+        dueStump(x, 0, 1, 0, 0, 8);
+        duePortfolio(x, 8, 0);
+        x.instance(95, 0, false);
+        x.cost(0, 3, 9);
+        x.cost(1, 3, 2);
+        dueHeldOut(x, 100, 20, 20, 100);
+        duePortfolio(x, 12, 1);
+        dueStump(x, 0, 91, 0, 1, 10);
     }
 
     private static void heldOutRefusals() {

@@ -72,10 +72,12 @@ public final class ModelTest {
 
     private void one(boolean large) {
         int kind = dice.nextInt(60);
-        if (kind < 28) {
+        if (kind < 26) {
             aboutRace();
-        } else if (kind < 30) {
+        } else if (kind < 28) {
             race();
+        } else if (kind < 30) {
+            wholeRace();
         } else if (kind < 31 && !large) {
             setting();
         } else if (kind < 32 && !large) {
@@ -99,11 +101,24 @@ public final class ModelTest {
         due("run()", got.run(), want.run());
     }
 
+    /** To its end, or to a cost that is not told, and then what came of it. */
+    private void wholeRace() {
+        race();
+        long last = 0;
+        while (last >= 0 && calls < 480) {
+            last = got.run();
+            due("run()", last, want.run());
+        }
+        for (int k = 0; k < 12; k++) {
+            watchRace();
+        }
+    }
+
     private void race() {
         int kind = number(2);
         int first = number(20) == 0 ? number(26) : 1 + dice.nextInt(4);
-        int down = number(20) == 0 ? number(1002) : 1 + dice.nextInt(20);
-        int up = number(20) == 0 ? number(1002) : 1 + dice.nextInt(Math.max(1, Math.min(1000, down)));
+        int down = number(20) == 0 ? number(1002) : 1 + dice.nextInt(40);
+        int up = number(20) == 0 ? number(1002) : 1 + dice.nextInt(Math.max(1, Math.min(1000, down / 4)));
         int least = number(5) == 0 ? number(14) : 1 + dice.nextInt(2);
         int budget = number(3) == 0 ? number(40) : 100 + dice.nextInt(901);
         int seed = dice.nextInt();

@@ -71,6 +71,12 @@ public final class OddsTest {
         Check.dueText("10 of 20 the other way", Check.odds(x, 1, 0), "5/8");
         RaceTuning y = full(1, new int[] {4, 4, 4}, new int[] {5, 5, 5});
         Check.dueText("all the same", Check.odds(y, 0, 1), "1/8");
+        RaceTuning z = full(1, new int[] {4, 4, 4}, new int[] {5, 5, 2});
+        Check.dueText("3 and 3 against 6", Check.odds(z, 0, 1), "5/8");
+        Check.dueText("6 against 3 and 3", Check.odds(z, 1, 0), "5/8");
+        RaceTuning w = full(1, new int[] {4, 4, 4, 4}, new int[] {5, 5, 5, 0});
+        Check.dueText("three times 4 against 8", Check.odds(w, 0, 1), "1/2");
+        Check.dueText("8 against three times 4", Check.odds(w, 1, 0), "3/4");
     }
 
     /** Seed 0 puts the three instances in the order 1, 2, 0. */

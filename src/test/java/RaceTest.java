@@ -24,6 +24,7 @@ public final class RaceTest {
         leaderOfLikeOnes();
         droppingGoesOnPastOneThatStays();
         droppingFromTheGreatestRank();
+        droppingTheOtherWayRound();
         droppingFromTheGreatestNumber();
         levelItselfDrops();
         leftAndDropped();
@@ -330,6 +331,21 @@ public final class RaceTest {
         Check.due("the next one", x.dropped(3), 1);
         Check.due("least are left", x.dropped(2), -3);
         Check.due("why", x.raceOf(0), 1);
+    }
+
+    /** The better, the greater the number: all ranks have to be put in another order than the numbers. */
+    private static void droppingTheOtherWayRound() {
+        RaceTuning x = Check.raced(new int[][] {{7, 7}, {9, 9}, {5, 5}, {3, 3}, {4, 4}, {1, 1}});
+        int[] goes = {1, 0, 2, 4, 3};
+        for (int least = 5; least >= 1; least--) {
+            x.race(1, 1, 1, 2, least, 1000, 4);
+            Check.runAll(x, 6);
+            Check.due("left with least " + least, x.left(-1), least);
+            Check.due("the leader with least " + least, x.raceOf(3), 5);
+            for (int k = 0; k < 5; k++) {
+                Check.due("dropped(" + goes[k] + ") with least " + least, x.dropped(goes[k]), k < 6 - least ? 1 : -3);
+            }
+        }
     }
 
     private static void droppingFromTheGreatestNumber() {
