@@ -21,14 +21,20 @@ public final class FaceTest {
             "int portfolio(int,int)", "int pick(int)", "int stump(int)", "int heldOut(int)",
             "long mean(int,int,int) throws java.lang.ArithmeticException");
 
+    private static final List<String> RACES =
+            List.of("race", "wants", "run", "left", "raceOf", "rank", "dropped", "odds");
+    private static final List<String> CHOICES = List.of("portfolio", "pick", "stump", "heldOut", "mean");
+
     private FaceTest() {
     }
 
     public static void main(String[] args) throws Exception {
+        String text = Files.readString(Path.of(args.length > 0 ? args[0] : "src/main/java/RaceTuning.java"));
         face();
         fields();
         methods();
-        source(args.length > 0 ? args[0] : "src/main/java/RaceTuning.java");
+        headings(text);
+        source(text);
         room();
         Check.end();
     }
@@ -90,8 +96,27 @@ public final class FaceTest {
         return all;
     }
 
-    private static void source(String path) throws Exception {
-        String text = Files.readString(Path.of(path)).replaceAll("(?s)/\\*.*?\\*/|//[^\n]*", "");
+    /** Each heading stands right ahead of its first call, and behind all calls of the one before. */
+    @Says(promise = 0, value = {"Ahead of the calls `race`, `wants`, `run`, `left`, `raceOf`, `rank`, `dropped`, `odds` "
+        + "the interface says: ---- races.", "Ahead of the calls `portfolio`, `pick`, `stump`, `heldOut`, `mean` "
+        + "the interface says: ---- choices."})
+    private static void headings(String text) {
+        int races = text.indexOf("// ---- races\n");
+        int choices = text.indexOf("// ---- choices\n");
+        for (String line : FACE) {
+            String name = line.substring(line.indexOf(' ') + 1, line.indexOf('('));
+            int at = text.indexOf("    public " + line.substring(0, line.indexOf('(') + 1));
+            boolean isRace = RACES.contains(name);
+            boolean isChoice = CHOICES.contains(name);
+            Check.dueTrue(name + " stands in the file", at >= 0);
+            Check.dueTrue(name + " and the heading of races", (at > races) == (isRace || isChoice));
+            Check.dueTrue(name + " and the heading of choices", (at > choices) == isChoice);
+        }
+        Check.dueTrue("races stand under a heading of their own", races > 0 && choices > races);
+    }
+
+    private static void source(String whole) {
+        String text = whole.replaceAll("(?s)/\\*.*?\\*/|//[^\n]*", "");
         String[] never = {
             "->", "::", "\\bcatch\\b", "\\btry\\b", "\\bfinally\\b", "\\bsynchronized\\b", "\\bassert\\b", "Exact\\b",
             "\\bpackage\\b", "\\bvar\\b", "\\bdouble\\b", "\\bfloat\\b", "\\bRandom\\b", "\\bSystem\\b",
