@@ -13,10 +13,7 @@ public final class HeldOutTest {
         }
     }
 
-    /** Each way takes another setting on one instance at least, and so has a sum of its own. */
-    @Says(promise = 17, value = "The sum over HELD OUT INSTANCES of the COST by: 0 PICK, 1 SINGLE, "
-        + "2 the least of WHOLE ones on each, 3 STUMP.")
-    static void eachWayHasItsSum() {
+    private static RaceTuning fourOfEight() {
         int[][] features = {{10, 50}, {20, 50}, {60, 50}, {70, 50}, {12, 50}, {100, 50}, {18, 50}, {5, 50}};
         boolean[] held = {false, false, false, false, true, true, true, true};
         int[][] costs = {
@@ -24,12 +21,36 @@ public final class HeldOutTest {
             {9, 2, 1, 1, 20, 4000, 50000, 2000},
             {5, 1, 5, 5, 6, 700000, 3, 4},
         };
-        RaceTuning x = Check.told(features, held, costs);
+        return Check.told(features, held, costs);
+    }
+
+    /** Each way takes another setting on one instance at least, and so has a sum of its own. */
+    @Says(promise = 17, value = "The sum over HELD OUT INSTANCES of the COST by: 0 PICK, 1 SINGLE, "
+        + "2 the least of WHOLE ones on each, 3 STUMP.")
+    static void eachWayHasItsSum() {
+        RaceTuning x = fourOfEight();
         Check.due("the cut", x.stump(1), 11);
         Check.due("the setting below", x.stump(2), 0);
         Check.due("that from the cut on", x.stump(3), 1);
         Check.due("the single one", x.portfolio(1, 0), 1);
         dueHeldOut(x, 100 + 4000 + 3 + 1000, 20 + 4000 + 50000 + 2000, 6 + 7 + 3 + 4, 20 + 4000 + 50000 + 1000);
+    }
+
+    /** No way lives on what another call found. Behind the change 2 is the single one, and the cut is 21. */
+    @Says(promise = 17, value = "The sum over HELD OUT INSTANCES of the COST by: 0 PICK, 1 SINGLE, "
+        + "2 the least of WHOLE ones on each, 3 STUMP.")
+    static void eachWayByItself() {
+        int[] sums = {5103, 56020, 20, 55020};
+        int[] later = {100 + 4000 + 3 + 4, 6 + 700000 + 3 + 4, 20, 6 + 4000 + 3 + 4};
+        for (int by = 0; by < 4; by++) {
+            RaceTuning x = fourOfEight();
+            Check.due("heldOut(" + by + ") alone", x.heldOut(by), sums[by]);
+            x.instance(4, 50, false);
+            x.cost(0, 8, 50);
+            x.cost(1, 8, 60);
+            x.cost(2, 8, 1);
+            Check.due("heldOut(" + by + ") behind a change", x.heldOut(by), later[by]);
+        }
     }
 
     @Says(promise = 17, value = "3 STUMP.")

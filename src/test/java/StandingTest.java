@@ -197,6 +197,14 @@ public final class StandingTest {
         Check.due("of 1 and 2", x.raceOf(3), 1);
     }
 
+    @Says(promise = 0, value = "THE LEADER has the least RANK,")
+    static void leaderOfThoseLeft() {
+        RaceTuning x = dropped(new int[][] {{5}, {7}, {1}, {1}, {9}}, 1, 2, 4);
+        dueLeft(x, 0, 1, 2, 3);
+        dueRanks(x, 4, 6, 1, 1, -1);
+        Check.due("neither the first one left nor the last", x.raceOf(3), 2);
+    }
+
     /** 1 is worse than 0 by its sum of costs, but better by ranks. */
     @Says(promise = 0, value = "THE LEADER has the least RANK,")
     static void leaderByRankAlone() {
