@@ -30,7 +30,9 @@ public final class FaceTest {
 
     public static void main(String[] args) throws Exception {
         String text = Files.readString(Path.of(args.length > 0 ? args[0] : "src/main/java/RaceTuning.java"));
+        String document = Files.readString(Path.of(args.length > 1 ? args[1] : "../shared/DOC.md"));
         face();
+        asWritten(document, text);
         fields();
         methods();
         headings(text);
@@ -58,6 +60,20 @@ public final class FaceTest {
             Check.dueTrue(f + " is private or NOTHING",
                     Modifier.isPrivate(f.getModifiers()) || f.getName().equals("NOTHING"));
         }
+    }
+
+    /** The document's face line by line, with the names of the parameters; a method's body begins where its ';' is. */
+    private static void asWritten(String document, String text) {
+        Matcher lines = Pattern.compile("(?m)^(    public .*);$").matcher(document);
+        int count = 0;
+        while (lines.find()) {
+            String line = lines.group(1);
+            String due = "\n" + line + (line.contains("=") ? ";" : " {") + "\n";
+            Check.dueTrue("the class has" + line, text.contains(due));
+            count++;
+        }
+        Check.due("the document's lines of a constant, a constructor and calls", count, 2 + FACE.size());
+        Check.due("NOTHING", RaceTuning.NOTHING, -9223372036854775808L);
     }
 
     private static void fields() {

@@ -256,7 +256,8 @@ public final class RefusalsTest {
     }
 
     /** A whole race of 12 settings on 14 instances, with every call's answer due up to the last one. */
-    @Says(promise = 0, value = "An object is used for at most 512 calls after it has been made;")
+    @Says(promise = 0, value = {"An object is used for at most 512 calls after it has been made;",
+        "what later calls answer is free."})
     static void fiveHundredAndTwelveCalls() {
         RaceTuning x = Check.withSettings(12);
         int calls = 12;
@@ -278,5 +279,14 @@ public final class RefusalsTest {
             calls++;
         }
         Check.due("the call with number 512", x.rank(11), 14 * 11);
+        // Any answer will do here, but not an exception: LANGUAGE.md, rule 7.
+        for (int later = 0; later < 50; later++) {
+            x.setting();
+            x.instance(later, later, false);
+            x.race(0, 1, 1, 2, 1, 1000, later);
+            x.run();
+            x.portfolio(6, 0);
+            x.heldOut(3);
+        }
     }
 }

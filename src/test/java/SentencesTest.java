@@ -5,7 +5,7 @@ import java.nio.file.Path;
 import java.util.ArrayList;
 import java.util.List;
 
-/** Every sentence of the document's terms and promises stands at a test, and what stands there is the document's. */
+/** Every sentence of the document, to its last promise, stands at a test, and what stands there is the document's. */
 public final class SentencesTest {
     private static final int PROMISES = 18;
 
@@ -18,6 +18,7 @@ public final class SentencesTest {
         for (int promise = 1; promise <= PROMISES; promise++) {
             dueCovered("promise " + promise, promiseText(document, promise), said, promise);
         }
+        dueCovered("what it is", flat(between(document, "## What it is", "\n## ")), said, 0);
         dueCovered("the terms", flat(between(document, "## Terms", "\n## Promise 1:").replace("```text", "")
                 .replace("```", "")), said, 0);
         dueQuoted(flat(document), said);
