@@ -1,7 +1,11 @@
+import java.io.File;
 import java.lang.reflect.InvocationTargetException;
 import java.lang.reflect.Method;
+import java.net.URISyntaxException;
 import java.util.Arrays;
 import java.util.Comparator;
+import java.util.Set;
+import java.util.TreeSet;
 
 /** Counts the answers that are not the ones due, and ends the test with exit code 1 if there was one. */
 final class Check {
@@ -28,6 +32,19 @@ final class Check {
         }
         where = "";
         end();
+    }
+
+    /** The project's tests, as .ci/run finds them: by their names. */
+    static Set<String> testNames() throws URISyntaxException {
+        File folder = new File(Check.class.getProtectionDomain().getCodeSource().getLocation().toURI());
+        String[] files = folder.list();
+        Set<String> names = new TreeSet<>();
+        for (String file : files == null ? new String[0] : files) {
+            if (file.endsWith("Test.class")) {
+                names.add(file.replace(".class", ""));
+            }
+        }
+        return names;
     }
 
     private static void invoke(Method test) throws IllegalAccessException {

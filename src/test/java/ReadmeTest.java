@@ -1,4 +1,3 @@
-import java.io.File;
 import java.lang.reflect.Method;
 import java.lang.reflect.Modifier;
 import java.net.URL;
@@ -92,20 +91,12 @@ public final class ReadmeTest {
     }
 
     private static void rowsOfTests(String readme) throws Exception {
-        Set<String> there = new TreeSet<>();
-        File folder = new File(ReadmeTest.class.getProtectionDomain().getCodeSource().getLocation().toURI());
-        String[] names = folder.list();
-        for (String name : names == null ? new String[0] : names) {
-            if (name.endsWith("Test.class")) {
-                there.add(name.replace(".class", ""));
-            }
-        }
         Set<String> told = new TreeSet<>();
         Matcher rows = Pattern.compile("\n\\| `(\\w+Test)` \\|").matcher(readme);
         while (rows.find()) {
             told.add(rows.group(1));
         }
-        Check.dueText("README.md's tests", told.toString(), there.toString());
+        Check.dueText("README.md's tests", told.toString(), Check.testNames().toString());
     }
 
     private static String between(String text, String from, String to) {

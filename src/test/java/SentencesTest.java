@@ -1,4 +1,3 @@
-import java.io.File;
 import java.lang.reflect.Method;
 import java.nio.file.Files;
 import java.nio.file.Path;
@@ -26,15 +25,11 @@ public final class SentencesTest {
     }
 
     private static List<Says> allSaid() throws Exception {
-        File folder = new File(SentencesTest.class.getProtectionDomain().getCodeSource().getLocation().toURI());
         List<Says> said = new ArrayList<>();
-        String[] names = folder.list();
-        for (String name : names == null ? new String[0] : names) {
-            if (name.endsWith("Test.class")) {
-                for (Method m : Class.forName(name.replace(".class", "")).getDeclaredMethods()) {
-                    if (m.isAnnotationPresent(Says.class)) {
-                        said.add(m.getAnnotation(Says.class));
-                    }
+        for (String name : Check.testNames()) {
+            for (Method m : Class.forName(name).getDeclaredMethods()) {
+                if (m.isAnnotationPresent(Says.class)) {
+                    said.add(m.getAnnotation(Says.class));
                 }
             }
         }
